@@ -32,7 +32,6 @@ public final class MirrorPlanner {
     private final Snapshots snapshots = new Snapshots();
     private final Orders orders = new Orders();
     private final Forecast forecast = new Forecast();
-    private boolean carryingOut;
     private int reason;
     private int failedOrder = NONE;
     private int failedCause = NONE;
@@ -49,7 +48,7 @@ public final class MirrorPlanner {
         if (state.mirrorCount >= State.MOST_MIRRORS) {
             return FULL;
         }
-        recordAct();
+        history.push(state);
         return state.newMirror(weight, wear);
     }
 
@@ -57,14 +56,22 @@ public final class MirrorPlanner {
         if (isNoPeriod(from, to) || isOutside(rate, 0, 500)) {
             return BAD_VALUE;
         }
-        return tellPeriod(state.dustRates, from, to, rate);
+        if (state.dustRates.isFull()) {
+            return refuse(PERIODS_FULL);
+        }
+        history.push(state);
+        return state.dustRates.tell(from, to, rate);
     }
 
     public int setMagnitude(int from, int to, int magnitude) {
         if (isNoPeriod(from, to) || isOutside(magnitude, 0, 30)) {
             return BAD_VALUE;
         }
-        return tellPeriod(state.magnitudes, from, to, magnitude);
+        if (state.magnitudes.isFull()) {
+            return refuse(PERIODS_FULL);
+        }
+        history.push(state);
+        return state.magnitudes.tell(from, to, magnitude);
     }
 
     public int clearPeriods() {
@@ -72,7 +79,7 @@ public final class MirrorPlanner {
         if (cleared == 0) {
             return NONE;
         }
-        recordAct();
+        history.push(state);
         state.dustRates.size = 0;
         state.magnitudes.size = 0;
         return cleared;
@@ -82,7 +89,7 @@ public final class MirrorPlanner {
         if (state.crew.size >= Crew.MOST_PEOPLE) {
             return FULL;
         }
-        recordAct();
+        history.push(state);
         return state.crew.newPerson();
     }
 
@@ -93,7 +100,7 @@ public final class MirrorPlanner {
         if (isOutside(weekday, 0, Crew.WEEKDAYS - 1) || isOutside(hours, 0, 12)) {
             return BAD_VALUE;
         }
-        recordAct();
+        history.push(state);
         return state.crew.changeShift(person, weekday, hours);
     }
 
@@ -104,7 +111,7 @@ public final class MirrorPlanner {
         if (isNoPeriod(from, to)) {
             return BAD_VALUE;
         }
-        recordAct();
+        history.push(state);
         state.crew.changeOff(person, from, to);
         return to - from + 1;
     }
@@ -123,7 +130,7 @@ public final class MirrorPlanner {
         if (against != FINE) {
             return refuse(against);
         }
-        recordAct();
+        history.push(state);
         return state.plan.insert(mirror, kind, day);
     }
 
@@ -131,7 +138,7 @@ public final class MirrorPlanner {
         if (!state.plan.has(place)) {
             return UNKNOWN;
         }
-        recordAct();
+        history.push(state);
         state.plan.remove(place);
         return state.plan.size;
     }
@@ -169,7 +176,7 @@ public final class MirrorPlanner {
         if (isNoStretch(nights)) {
             return BAD_VALUE;
         }
-        recordAct();
+        history.push(state);
         long sum = 0;
         for (int i = 0; i < nights; i++) {
             sum += state.passNight();
@@ -197,12 +204,23 @@ public final class MirrorPlanner {
         if (fault != Orders.NO_FAULT) {
             return -100 - fault;
         }
-        recordAct();
+        history.push(state);
         failedOrder = NONE;
         failedCause = NONE;
-        carryingOut = true;
-        int done = carryOutAll();
-        carryingOut = false;
+        int done = 0;
+        history.paused = true;
+        orders.goToBegin();
+        for (int i = 0; i < Orders.MOST_SIGNS && orders.goesOn && failedOrder == NONE; i++) {
+            orders.readOrder();
+            long answer = carryOutOrder();
+            if (answer < 0) {
+                failedOrder = done;
+                failedCause = causeOf(answer);
+            } else {
+                done++;
+            }
+        }
+        history.paused = false;
         return done;
     }
 
@@ -242,7 +260,7 @@ public final class MirrorPlanner {
         if (snapshots.isEmpty(slot)) {
             return NONE;
         }
-        recordAct();
+        history.push(state);
         snapshots.fetch(slot, state);
         return state.present;
     }
@@ -415,44 +433,12 @@ public final class MirrorPlanner {
 
     // ---- acts
 
-    /** Orders call the methods of the face; all of them together are one act, recorded before. */
-    private void recordAct() {
-        if (!carryingOut) {
-            history.push(state);
-        }
-    }
-
     private int refuse(int why) {
         reason = why;
         return REFUSED;
     }
 
-    private int tellPeriod(Periods periods, int from, int to, int value) {
-        if (periods.isFull()) {
-            return refuse(PERIODS_FULL);
-        }
-        recordAct();
-        return periods.tell(from, to, value);
-    }
-
-    /** Tells how many orders were carried out; the text is known to be without a fault. */
-    private int carryOutAll() {
-        int done = 0;
-        orders.goToBegin();
-        for (int i = 0; i < Orders.MOST_SIGNS && orders.goesOn; i++) {
-            orders.readOrder();
-            long answer = carryOutOrder();
-            if (answer < 0) {
-                failedOrder = done;
-                failedCause = causeOf(answer);
-                return done;
-            }
-            done++;
-        }
-        return done;
-    }
-
-    /** The answer is less than 0 for errors alone: places, numbers and losses are not. */
+    /** What the method of the order answers, less than 0 for errors alone. */
     private long carryOutOrder() {
         int first = orders.numbers[0];
         int second = orders.numbers[1];
@@ -813,10 +799,13 @@ public final class MirrorPlanner {
 
         /** The hours for which the person is on shift on the day, 0 if off. */
         private int hoursOfPerson(int person, int day) {
-            if (has(person) && offFirst[person] <= day && day <= offLast[person]) {
+            if (person < 0 || person >= size || day < 0) {
                 return 0;
             }
-            return shiftOf(person, day % WEEKDAYS);
+            if (offFirst[person] <= day && day <= offLast[person]) {
+                return 0;
+            }
+            return shifts[person * WEEKDAYS + day % WEEKDAYS];
         }
 
         int peopleOn(int day) {
@@ -956,6 +945,8 @@ public final class MirrorPlanner {
         final State[] states = new State[MOST_STATES];
         int next;
         int size;
+        /** While orders are carried out: all of them are one act, which is recorded before. */
+        boolean paused;
 
         History() {
             for (int i = 0; i < MOST_STATES; i++) {
@@ -964,6 +955,9 @@ public final class MirrorPlanner {
         }
 
         void push(State before) {
+            if (paused) {
+                return;
+            }
             states[next].copyFrom(before);
             next = (next + 1) % MOST_STATES;
             size = Math.min(size + 1, MOST_STATES);

@@ -8,27 +8,48 @@ final class Check {
 
     private static int wrong = 0;
     private static int looked = 0;
+    private static String sentence = "";
+    private static int lookedBefore = 0;
 
     private Check() {
+    }
+
+    /** Begins the test of a sentence of DOC.md; one that looks at no answer is wrong itself. */
+    static void says(String words) {
+        endSentence();
+        sentence = words;
+        lookedBefore = looked;
+    }
+
+    private static void endSentence() {
+        if (!sentence.isEmpty() && looked == lookedBefore) {
+            wrong++;
+            System.out.println("no answer is looked at for: " + sentence);
+        }
+        sentence = "";
+    }
+
+    private static void tell(String what) {
+        wrong++;
+        System.out.println(what + (sentence.isEmpty() ? "" : "; DOC.md says: " + sentence));
     }
 
     static void due(String call, long got, long want) {
         looked++;
         if (got != want) {
-            wrong++;
-            System.out.println(call + " answered " + got + ", due is " + want);
+            tell(call + " answered " + got + ", due is " + want);
         }
     }
 
     static void holds(String what, boolean so) {
         looked++;
         if (!so) {
-            wrong++;
-            System.out.println(what + " does not hold");
+            tell(what + " does not hold");
         }
     }
 
     static void end() {
+        endSentence();
         System.out.println(looked + " answers, " + wrong + " wrong");
         if (wrong != 0 || looked == 0) {
             System.exit(1);
@@ -45,6 +66,30 @@ final class Check {
             }
         }
         return x;
+    }
+
+    /** Such a planner with so many mirrors of weight 100 and wear 0. */
+    static MirrorPlanner withCrewAndMirrors(int people, int hours, int mirrors) {
+        MirrorPlanner x = withCrew(people, hours);
+        for (int i = 0; i < mirrors; i++) {
+            x.addMirror(100, 0);
+        }
+        return x;
+    }
+
+    /** Lets nights pass until the present night is the given one, with few calls of the 512. */
+    static void passTo(MirrorPlanner x, int night) {
+        int left = night - x.count(0);
+        while (left > 0) {
+            int nights = Math.min(60, left);
+            x.pass(nights);
+            left -= nights;
+        }
+    }
+
+    static void refused(String call, MirrorPlanner x, int got, int reason) {
+        due(call, got, REFUSED);
+        due("the reason of " + call, x.count(5), reason);
     }
 
     static int type(MirrorPlanner x, String text) {
